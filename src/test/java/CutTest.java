@@ -2,28 +2,14 @@
 public final class CutTest {
     public static void main(String[] args) {
         Due due = new Due();
-        severalOfOneCost(due);
-        leastCostComesFirst(due);
-        noWay(due);
-        sideNodes(due);
-        flowGoesBack(due);
-        rulesBackAreNotCut(due);
-        allRules(due);
+        due.part(CutTest::severalOfOneCost);
+        due.part(CutTest::leastCostComesFirst);
+        due.part(CutTest::noWay);
+        due.part(CutTest::sideNodes);
+        due.part(CutTest::flowGoesBack);
+        due.part(CutTest::rulesBackAreNotCut);
+        due.part(CutTest::allRules);
         due.end();
-    }
-
-    private static void cut(Due due, FlowGuard x, int from, int to, int cost, int left, int... rules) {
-        String name = "cut of " + from + " and " + to;
-        due.is(name + ", cost", cost, () -> x.cut(from, to));
-        due.is(name + ", left", left, () -> x.left(from, to));
-        for (int i = 0; i < rules.length; i++) {
-            int k = i;
-            due.is(name + ", rule " + k, rules[k], () -> x.cutRule(from, to, k));
-        }
-        for (int k : new int[] {rules.length, rules.length + 1, 90, Integer.MAX_VALUE}) {
-            due.is(name + ", behind the last one, " + k, -1, () -> x.cutRule(from, to, k));
-        }
-        due.throwsExactly(name + ", k below 0", IllegalArgumentException.class, () -> x.cutRule(from, to, -1));
     }
 
     private static void severalOfOneCost(Due due) {
@@ -32,16 +18,16 @@ public final class CutTest {
         x.rule(1, 2, 4);
         x.rule(0, 1, 4);
         // Each rule alone is a cut of cost 4: the one that is nearest leaves fewest nodes.
-        cut(due, x, 0, 27, 4, 1, 2);
-        cut(due, x, 1, 27, 4, 1 << 1, 1);
+        Ask.cut(due, x, 0, 27, 4, 1, 2);
+        Ask.cut(due, x, 1, 27, 4, 1 << 1, 1);
         x.rule(0, 1, 1);
-        cut(due, x, 0, 27, 4, 1 | 1 << 1, 1);
+        Ask.cut(due, x, 0, 27, 4, 1 | 1 << 1, 1);
         x.rule(1, 2, 1);
-        cut(due, x, 0, 27, 4, 1 | 1 << 1 | 1 << 2, 0);
+        Ask.cut(due, x, 0, 27, 4, 1 | 1 << 1 | 1 << 2, 0);
         x.rule(2, 27, 1);
-        cut(due, x, 0, 27, 5, 1, 2, 3);
+        Ask.cut(due, x, 0, 27, 5, 1, 2, 3);
         x.turn(3, false);
-        cut(due, x, 0, 27, 4, 1, 2);
+        Ask.cut(due, x, 0, 27, 4, 1, 2);
     }
 
     private static void leastCostComesFirst(Due due) {
@@ -54,11 +40,11 @@ public final class CutTest {
         x.rule(3, 5, 9);
         x.rule(4, 5, 9);
         // Three rules of cost 8 are less than the one of cost 9.
-        cut(due, x, 0, 5, 8, 1 | 1 << 1, 1, 2, 3);
+        Ask.cut(due, x, 0, 5, 8, 1 | 1 << 1, 1, 2, 3);
         x.rule(1, 5, 1);
-        cut(due, x, 0, 5, 9, 1, 0);
+        Ask.cut(due, x, 0, 5, 9, 1, 0);
         x.rule(1, 5, 1);
-        cut(due, x, 0, 5, 9, 1, 0);
+        Ask.cut(due, x, 0, 5, 9, 1, 0);
     }
 
     private static void noWay(Due due) {
@@ -66,11 +52,11 @@ public final class CutTest {
         x.rule(0, 1, 5);
         x.rule(1, 2, 5);
         x.rule(27, 2, 5);
-        cut(due, x, 0, 27, 0, 1 | 1 << 1 | 1 << 2);
-        cut(due, x, 2, 0, 0, 1 << 2);
-        cut(due, x, 27, 0, 0, 1 << 2 | 1 << 27);
+        Ask.cut(due, x, 0, 27, 0, 1 | 1 << 1 | 1 << 2);
+        Ask.cut(due, x, 2, 0, 0, 1 << 2);
+        Ask.cut(due, x, 27, 0, 0, 1 << 2 | 1 << 27);
         x.turn(1, false);
-        cut(due, x, 0, 2, 0, 1 | 1 << 1);
+        Ask.cut(due, x, 0, 2, 0, 1 | 1 << 1);
     }
 
     private static void sideNodes(Due due) {
@@ -82,11 +68,11 @@ public final class CutTest {
         x.rule(1, 7, 1);
         x.rule(27, 6, 1);
         // 8 and 9 are left though no way to 27 goes there; 7 is behind the cut.
-        cut(due, x, 0, 27, 2, 1 | 1 << 8 | 1 << 9, 0);
+        Ask.cut(due, x, 0, 27, 2, 1 | 1 << 8 | 1 << 9, 0);
         x.rule(9, 1, 2);
-        cut(due, x, 0, 27, 3, 1, 0, 1);
+        Ask.cut(due, x, 0, 27, 3, 1, 0, 1);
         x.rule(0, 9, 1);
-        cut(due, x, 0, 27, 3, 1 | 1 << 1 | 1 << 7 | 1 << 8 | 1 << 9, 3);
+        Ask.cut(due, x, 0, 27, 3, 1 | 1 << 1 | 1 << 7 | 1 << 8 | 1 << 9, 3);
     }
 
     private static void flowGoesBack(Due due) {
@@ -97,9 +83,9 @@ public final class CutTest {
         x.rule(2, 27, 5);
         x.rule(0, 2, 5);
         x.rule(1, 27, 5);
-        cut(due, x, 0, 27, 10, 1, 1, 3);
+        Ask.cut(due, x, 0, 27, 10, 1, 1, 3);
         x.rule(0, 1, 9);
-        cut(due, x, 0, 27, 10, 1 | 1 << 1 | 1 << 2, 2, 4);
+        Ask.cut(due, x, 0, 27, 10, 1 | 1 << 1 | 1 << 2, 2, 4);
     }
 
     private static void rulesBackAreNotCut(Due due) {
@@ -108,11 +94,11 @@ public final class CutTest {
         x.rule(0, 27, 1);
         x.rule(1, 0, 9);
         x.rule(27, 1, 9);
-        cut(due, x, 0, 27, 1, 1, 1);
-        cut(due, x, 27, 0, 18, 1 << 27, 0, 3);
+        Ask.cut(due, x, 0, 27, 1, 1, 1);
+        Ask.cut(due, x, 27, 0, 18, 1 << 27, 0, 3);
         due.is("a question changes no rule: length", 1, () -> x.length(0, 27));
         due.is("a question changes no rule: turn", true, () -> x.turn(1, true));
-        cut(due, x, 0, 27, 1, 1, 1);
+        Ask.cut(due, x, 0, 27, 1, 1, 1);
     }
 
     private static void allRules(Due due) {
@@ -122,7 +108,7 @@ public final class CutTest {
             all[i] = i;
             x.rule(27, 0, 9);
         }
-        cut(due, x, 27, 0, 810, 1 << 27, all);
+        Ask.cut(due, x, 27, 0, 810, 1 << 27, all);
         x.turn(0, false);
         due.is("cut of 89", 801, () -> x.cut(27, 0));
         due.is("first of 89", 1, () -> x.cutRule(27, 0, 0));

@@ -4,8 +4,31 @@ final class Due {
         Object answer();
     }
 
+    interface Part {
+        void ask(Due due);
+    }
+
+    private String sentence = "";
+    private int sentences = 0;
     private int wrong = 0;
     private int asked = 0;
+
+    /** What is asked from here on is due by this sentence of the document. */
+    void sentence(String text) {
+        sentence = text + ": ";
+        sentences++;
+    }
+
+    /** Asks one part of a test: if it can't be asked to its end, that is wrong, and the next is asked. */
+    void part(Part part) {
+        sentence = "";
+        try {
+            part.ask(this);
+        } catch (RuntimeException thrown) {
+            wrong++;
+            System.out.println(sentence + "ended with " + thrown + " at " + thrown.getStackTrace()[0]);
+        }
+    }
 
     /** The call answers this. */
     void is(String name, Object want, Call call) {
@@ -13,7 +36,7 @@ final class Due {
         Object got = answerOf(call);
         if (!want.equals(got)) {
             wrong++;
-            System.out.println(name + " answered " + got + ", due is " + want);
+            System.out.println(sentence + name + " answered " + got + ", due is " + want);
         }
     }
 
@@ -31,7 +54,8 @@ final class Due {
     }
 
     void end() {
-        System.out.println(wrong == 0 ? asked + " answers, all as due" : wrong + " of " + asked + " answers are not as due");
+        String of = asked + " answers" + (sentences == 0 ? "" : " to " + sentences + " sentences");
+        System.out.println(wrong == 0 ? of + ", all as due" : wrong + " not as due of " + of);
         if (wrong != 0) {
             System.exit(1);
         }

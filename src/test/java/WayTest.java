@@ -2,32 +2,14 @@
 public final class WayTest {
     public static void main(String[] args) {
         Due due = new Due();
-        severalOfOneLength(due);
-        laterRulesDecide(due);
-        fewerRulesComeFirst(due);
-        withoutRules(due);
-        allNodesInARow(due);
-        passedNodes(due);
-        passedInCircles(due);
+        due.part(WayTest::severalOfOneLength);
+        due.part(WayTest::laterRulesDecide);
+        due.part(WayTest::fewerRulesComeFirst);
+        due.part(WayTest::withoutRules);
+        due.part(WayTest::allNodesInARow);
+        due.part(WayTest::passedNodes);
+        due.part(WayTest::passedInCircles);
         due.end();
-    }
-
-    private static void way(Due due, FlowGuard x, int from, int to, int... rules) {
-        String name = "way from " + from + " to " + to;
-        due.is(name + ", length", rules.length, () -> x.length(from, to));
-        for (int i = 0; i < rules.length; i++) {
-            int k = i;
-            due.is(name + ", step " + k, rules[k], () -> x.step(from, to, k));
-        }
-        due.throwsExactly(name + ", step behind", IndexOutOfBoundsException.class, () -> x.step(from, to, rules.length));
-        due.throwsExactly(name + ", step before", IndexOutOfBoundsException.class, () -> x.step(from, to, -1));
-    }
-
-    private static void noWay(Due due, FlowGuard x, int from, int to) {
-        String name = "no way from " + from + " to " + to;
-        due.is(name + ", length", -1, () -> x.length(from, to));
-        due.is(name + ", passed", 0, () -> x.passed(from, to));
-        due.throwsExactly(name + ", step", IndexOutOfBoundsException.class, () -> x.step(from, to, 0));
     }
 
     private static void severalOfOneLength(Due due) {
@@ -37,15 +19,15 @@ public final class WayTest {
         x.rule(0, 1, 1);
         x.rule(2, 27, 9);
         // The first rule decides, though the second one is less on the other way, and the costs too.
-        way(due, x, 0, 27, 1, 3);
+        Ask.way(due, x, 0, 27, 1, 3);
         x.turn(1, false);
-        way(due, x, 0, 27, 2, 0);
+        Ask.way(due, x, 0, 27, 2, 0);
         x.turn(1, true);
         x.turn(3, false);
-        way(due, x, 0, 27, 2, 0);
+        Ask.way(due, x, 0, 27, 2, 0);
         x.turn(0, false);
-        noWay(due, x, 0, 27);
-        noWay(due, x, 27, 0);
+        Ask.noWay(due, x, 0, 27);
+        Ask.noWay(due, x, 27, 0);
     }
 
     private static void laterRulesDecide(Due due) {
@@ -56,11 +38,11 @@ public final class WayTest {
         x.rule(2, 3, 1);
         x.rule(1, 2, 1);
         x.rule(1, 2, 1);
-        way(due, x, 1, 5, 4, 2, 0);
+        Ask.way(due, x, 1, 5, 4, 2, 0);
         x.turn(0, false);
-        way(due, x, 1, 5, 4, 3, 1);
+        Ask.way(due, x, 1, 5, 4, 3, 1);
         x.turn(4, false);
-        way(due, x, 1, 5, 5, 3, 1);
+        Ask.way(due, x, 1, 5, 5, 3, 1);
     }
 
     private static void fewerRulesComeFirst(Due due) {
@@ -70,19 +52,19 @@ public final class WayTest {
         x.rule(2, 3, 1);
         x.rule(1, 3, 9);
         x.rule(3, 0, 1);
-        way(due, x, 0, 3, 0, 3);
+        Ask.way(due, x, 0, 3, 0, 3);
         x.rule(0, 3, 9);
-        way(due, x, 0, 3, 5);
-        way(due, x, 3, 2, 4, 0, 1);
+        Ask.way(due, x, 0, 3, 5);
+        Ask.way(due, x, 3, 2, 4, 0, 1);
     }
 
     private static void withoutRules(Due due) {
         FlowGuard x = new FlowGuard();
         x.rule(0, 27, 1);
         x.rule(27, 0, 1);
-        way(due, x, 0, 0);
-        way(due, x, 27, 27);
-        way(due, x, 13, 13);
+        Ask.way(due, x, 0, 0);
+        Ask.way(due, x, 27, 27);
+        Ask.way(due, x, 13, 13);
         due.is("passed(0, 0) on a circle", 0, () -> x.passed(0, 0));
         due.is("passed(13, 13)", 0, () -> x.passed(13, 13));
     }
